@@ -1,0 +1,81 @@
+import java.util.ArrayList;
+import java.util.Arrays;
+import java.util.List;
+import java.util.Map;
+
+/**
+ * Runs of calls, written one a line: "create 1 4 2 -> 0", "pull 9 -> false", "read 0 99 -> BAD".
+ * A test makes one Script, runs its runs and closes with end(), which leaves with exit code 1 if an
+ * answer was not the one that is due.
+ */
+final class Script {
+    static final Map<String, Integer> NAMES = Map.ofEntries(
+            Map.entry("BAD", -1), Map.entry("DOWN", -2), Map.entry("FEW", -3), Map.entry("BUSY", -4),
+            Map.entry("SPACE", -5), Map.entry("MISSING", -6), Map.entry("STOPPED", -7),
+            Map.entry("IDLE", -8), Map.entry("UP", -9), Map.entry("MANY", -10), Map.entry("TORN", -11),
+            Map.entry("true", 1), Map.entry("false", 0),
+            Map.entry("MAX", Integer.MAX_VALUE), Map.entry("MIN", Integer.MIN_VALUE));
+
+    private int wrong = 0;
+
+    void run(String title, int disks, int extents, String... lines) {
+        ExtentGroup group = new ExtentGroup(disks, extents);
+        for (String line : lines) {
+            for (String call : line.split(";")) {
+                check(title, group, call.trim());
+            }
+        }
+    }
+
+    void due(String what, int got, int want) {
+        if (got != want) {
+            wrong++;
+            System.out.println(what + " answered " + got + ", due is " + want);
+        }
+    }
+
+    void end() {
+        System.out.println(wrong == 0 ? "all answers are as due" : wrong + " answers are not as due");
+        if (wrong != 0) {
+            System.exit(1);
+        }
+    }
+
+    private void check(String title, ExtentGroup group, String call) {
+        String[] sides = call.split("->");
+        List<String> words = new ArrayList<>(Arrays.asList(sides[0].trim().split(" +")));
+        String name = words.remove(0);
+        int[] args = words.stream().mapToInt(Script::number).toArray();
+        due(title + ": " + call, call(group, name, args), number(sides[1].trim()));
+    }
+
+    private static int number(String word) {
+        return NAMES.containsKey(word) ? NAMES.get(word) : Integer.parseInt(word);
+    }
+
+    /** Makes one call; a boolean counts 1 or 0. */
+    static int call(ExtentGroup x, String name, int... a) {
+        return switch (name) {
+            case "create" -> x.create(a[0], a[1], a[2]);
+            case "extend" -> x.extend(a[0], a[1]);
+            case "reduce" -> x.reduce(a[0], a[1]);
+            case "move" -> x.move(a[0], a[1], a[2]);
+            case "step" -> x.step();
+            case "cancel" -> x.cancel();
+            case "read" -> x.read(a[0], a[1]);
+            case "write" -> x.write(a[0], a[1], a[2]);
+            case "pull" -> x.pull(a[0]) ? 1 : 0;
+            case "plug" -> x.plug(a[0]) ? 1 : 0;
+            case "arm" -> x.arm(a[0]) ? 1 : 0;
+            case "crash" -> x.crash() ? 1 : 0;
+            case "activate" -> x.activate();
+            case "where" -> x.where(a[0], a[1]);
+            case "rows" -> x.rows(a[0]);
+            case "free" -> x.free(a[0]);
+            case "moving" -> x.moving();
+            case "sequence" -> x.sequence();
+            case "slot" -> x.slot(a[0], a[1]);
+            default -> throw new IllegalArgumentException(name);
+        };
+    }
+}
