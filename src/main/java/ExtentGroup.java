@@ -62,18 +62,17 @@ public final class ExtentGroup {
         if (!isShape(width, chunk) || rows < 1 || rows > MOST_EXTENTS / width) {
             return BAD;
         }
-        if (!isQuorum(presentDisks())) {
+        if (isFew()) {
             return FEW;
         }
         int number = present.layout.leastAbsent();
         if (number == NONE) {
             return MANY;
         }
-        int[] places = new int[width * rows];
-        if (!takeRows(width, places, 0)) {
+        Volume made = new Volume(width, chunk, rows, new int[width * rows]);
+        if (!takeRows(made, 0)) {
             return SPACE;
         }
-        Volume made = new Volume(width, chunk, rows, places);
         return commit(present.layout.withVolume(number, made)) ? number : STOPPED;
     }
 
@@ -85,14 +84,14 @@ public final class ExtentGroup {
         if (old == null || rows < 1 || rows > MOST_EXTENTS / old.width - old.rowCount) {
             return BAD;
         }
-        if (!isQuorum(presentDisks())) {
+        if (isFew()) {
             return FEW;
         }
         if (isMoving(volume)) {
             return BUSY;
         }
         Volume longer = old.withRows(old.rowCount + rows);
-        if (!takeRows(old.width, longer.places, old.places.length)) {
+        if (!takeRows(longer, old.rowCount)) {
             return SPACE;
         }
         return commit(present.layout.withVolume(volume, longer)) ? longer.rowCount : STOPPED;
@@ -106,7 +105,7 @@ public final class ExtentGroup {
         if (old == null || rows < 1 || rows > old.rowCount) {
             return BAD;
         }
-        if (!isQuorum(presentDisks())) {
+        if (isFew()) {
             return FEW;
         }
         if (isMoving(volume)) {
@@ -125,7 +124,7 @@ public final class ExtentGroup {
         if (moved == null || !moved.hasExtent(extent) || !isDisk(disk)) {
             return BAD;
         }
-        if (!isQuorum(presentDisks())) {
+        if (isFew()) {
             return FEW;
         }
         if (present.layout.move != null) {
@@ -155,7 +154,7 @@ public final class ExtentGroup {
         if (move == null) {
             return IDLE;
         }
-        if (!isQuorum(presentDisks())) {
+        if (isFew()) {
             return FEW;
         }
         if (!diskOf(move.source).isPresent || !diskOf(move.target).isPresent) {
@@ -178,7 +177,7 @@ public final class ExtentGroup {
         if (present.layout.move == null) {
             return IDLE;
         }
-        if (!isQuorum(presentDisks())) {
+        if (isFew()) {
             return FEW;
         }
         return commit(present.layout.withMove(null)) ? 0 : STOPPED;
@@ -333,14 +332,14 @@ public final class ExtentGroup {
         return disks[place / PLACES];
     }
 
-    private int presentDisks() {
+    private boolean isFew() {
         int count = 0;
         for (int d = 0; d < disks.length; d++) {
             if (disks[d].isPresent) {
                 count++;
             }
         }
-        return count;
+        return !isQuorum(count);
     }
 
     private boolean isQuorum(int count) {
@@ -479,14 +478,15 @@ public final class ExtentGroup {
         return NONE;
     }
 
-    private boolean takeRows(int width, int[] places, int from) {
+    /** Gives places to the rows of a volume, still to be committed, from one row on; false without room. */
+    private boolean takeRows(Volume volume, int firstRow) {
         markTaken();
-        for (int at = from; at < places.length; at += width) {
-            int picked = pickDisks(width);
+        for (int row = firstRow; row < volume.rowCount; row++) {
+            int picked = pickDisks(volume.width);
             if (picked == 0) {
                 return false;
             }
-            takeRow(picked, places, at);
+            takeRow(picked, volume.places, row * volume.width);
         }
         return true;
     }
@@ -616,9 +616,7 @@ public final class ExtentGroup {
             if (old == null) {
                 return this;
             }
-            Volume moved = old.withRows(old.rowCount);
-            moved.places[move.extent] = move.target;
-            return new Layout(volumesWith(move.volume, moved), null);
+            return new Layout(volumesWith(move.volume, old.withPlace(move.extent, move.target)), null);
         }
 
         private Volume[] volumesWith(int number, Volume volume) {
@@ -647,6 +645,14 @@ public final class ExtentGroup {
         /** A volume with places of its own, those of new rows still to be taken. */
         Volume withRows(int count) {
             return new Volume(width, chunk, count, Arrays.copyOf(places, width * count));
+        }
+
+        Volume withPlace(int extent, int place) {
+            Volume changed = withRows(rowCount);
+            if (hasExtent(extent)) {
+                changed.places[extent] = place;
+            }
+            return changed;
         }
 
         boolean hasExtent(int extent) {

@@ -14,8 +14,8 @@ public final class CellsTest {
         s.end();
     }
 
-    // Which extent and cell a block lies in is seen by moving no more than volumes' shapes: the same
-    // extents are read through a volume of width 1, whose block b is the cell b.
+    // Which extent and cell a block lies in is seen afterwards through a volume of width 1 that takes the
+    // same extents: its block b is cell b mod 4 of its extent b / 4.
     private static void striped(Script s) {
         s.run("chunk 1, width 2", 2, 2,
                 "create 2 1 1 -> 0; write 0 0 10 -> 1; write 0 1 11 -> 1; write 0 2 12 -> 1; write 0 7 17 -> 1; reduce 0 1 -> 0",

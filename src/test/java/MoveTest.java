@@ -22,6 +22,9 @@ public final class MoveTest {
         s.run("a move to the least free extent", 2, 4,
                 "create 1 1 6 -> 0; reduce 0 4 -> 2; create 1 1 1 -> 1; move 0 0 1 -> 0; step -> 3; step -> 2; step -> 1; step -> 0; step -> 4",
                 "where 0 0 -> 17; where 0 1 -> 16; where 1 0 -> 1");
+        s.run("a move to an extent that was given back", 2, 3,
+                "create 1 1 1 -> 0; create 1 1 1 -> 1; reduce 1 1 -> 0; move 0 0 1 -> 0; step -> 3; step -> 2; step -> 1; step -> 0",
+                "step -> 4; where 0 0 -> 16");
     }
 
     private static void moveRefused(Script s) {
@@ -88,6 +91,7 @@ public final class MoveTest {
         s.run("cancel: DOWN before IDLE before FEW", 3, 3,
                 "create 1 1 1 -> 0; pull 1 -> true; pull 2 -> true; cancel -> IDLE; plug 1 -> true; move 0 0 1 -> 0; pull 0 -> true",
                 "cancel -> FEW; moving -> 0; crash -> true; cancel -> DOWN");
+        s.run("step, cancel: DOWN without a move too", 3, 3, "crash -> true; step -> DOWN; cancel -> DOWN; moving -> DOWN");
         s.run("cancel needs neither disk of the move", 5, 3,
                 "create 1 1 1 -> 0; move 0 0 1 -> 0; pull 0 -> true; pull 1 -> true; cancel -> 0; moving -> IDLE");
         s.run("cancel: STOPPED", 2, 3,
