@@ -4,9 +4,10 @@ import java.util.List;
 import java.util.Map;
 
 /**
- * Runs of calls, written one a line: "create 1 4 2 -> 0", "pull 9 -> false", "read 0 99 -> BAD".
- * A test makes one Script, runs its runs and closes with end(), which leaves with exit code 1 if an
- * answer was not the one that is due.
+ * Runs of calls, written "create 1 4 2 -> 0", "pull 9 -> false", "read 0 99 -> BAD", with semicolons
+ * between them. A test makes one Script, runs its runs and closes with end(), which leaves with exit
+ * code 1 if an answer was not the one that is due. The titles are the document's own words where a
+ * run is the test of a sentence.
  */
 final class Script {
     static final Map<String, Integer> NAMES = Map.ofEntries(
@@ -18,11 +19,36 @@ final class Script {
 
     private int wrong = 0;
 
-    void run(String title, int disks, int extents, String... lines) {
+    /** A run on a new object, which is given back for more calls. */
+    ExtentGroup run(String title, int disks, int extents, String... lines) {
         ExtentGroup group = new ExtentGroup(disks, extents);
+        go(title, group, lines);
+        return group;
+    }
+
+    void go(String title, ExtentGroup group, String... lines) {
         for (String line : lines) {
             for (String call : line.split(";")) {
-                check(title, group, call.trim());
+                if (!call.isBlank()) {
+                    check(title, group, call.trim());
+                }
+            }
+        }
+    }
+
+    /**
+     * Each of the refused calls alone, after the run before it: it is answered as said, and changes nothing,
+     * for an object on which it was not tried answers all that follows in the same way.
+     */
+    void refuses(String title, int disks, int extents, String before, String... refused) {
+        for (String line : refused) {
+            for (String call : line.split(";")) {
+                for (List<Probe.Call> probe : Probe.ALL) {
+                    ExtentGroup tried = run(title, disks, extents, before, call);
+                    ExtentGroup untried = run(title, disks, extents, before);
+                    boolean same = Probe.answers(tried, probe).equals(Probe.answers(untried, probe));
+                    due(title + ": changes nothing: " + call.trim(), same ? 1 : 0, 1);
+                }
             }
         }
     }

@@ -1,0 +1,113 @@
+import java.util.ArrayList;
+import java.util.List;
+
+/**
+ * Runs of calls that bring to light in what two objects differ: the state that can be asked for, and what
+ * only later calls show (what is armed, how many copies a disk was given, which copies its slots hold).
+ */
+final class Probe {
+    record Call(String name, int... args) { }
+
+    static final List<Call> WHOLE_STATE = wholeState();
+    static final List<List<Call>> ALL = all();
+
+    private Probe() { }
+
+    static List<Integer> answers(ExtentGroup group, List<Call> calls) {
+        List<Integer> answers = new ArrayList<>();
+        for (Call call : calls) {
+            answers.add(Script.call(group, call.name(), call.args()));
+        }
+        return answers;
+    }
+
+    private static List<List<Call>> all() {
+        List<List<Call>> all = new ArrayList<>();
+        all.add(WHOLE_STATE);
+        all.add(afterANewStart());
+        all.add(untilAStop());
+        all.add(eachDiskLeftBehind());
+        for (int seed = 0; seed < 8; seed++) {
+            all.add(anyCalls(seed));
+        }
+        return all;
+    }
+
+    private static List<Call> wholeState() {
+        List<Call> calls = new ArrayList<>();
+        calls.add(new Call("sequence"));
+        calls.add(new Call("moving"));
+        for (int v = 0; v < 4; v++) {
+            calls.add(new Call("rows", v));
+            for (int e = 0; e < 12; e++) {
+                calls.add(new Call("where", v, e));
+            }
+            for (int b = 0; b < 48; b++) {
+                calls.add(new Call("read", v, b));
+            }
+        }
+        for (int d = 0; d < 5; d++) {
+            calls.add(new Call("free", d));
+            for (int k = 0; k < 3; k++) {
+                calls.add(new Call("slot", d, k));
+            }
+        }
+        return calls;
+    }
+
+    private static void plugAll(List<Call> calls) {
+        for (int d = 0; d < 5; d++) {
+            calls.add(new Call("plug", d));
+        }
+    }
+
+    private static List<Call> afterANewStart() {
+        List<Call> calls = new ArrayList<>();
+        calls.add(new Call("crash"));
+        plugAll(calls);
+        calls.add(new Call("activate"));
+        calls.addAll(WHOLE_STATE);
+        return calls;
+    }
+
+    /** More acts than can be armed: the armed stop, if there is one, comes at its place among them. */
+    private static List<Call> untilAStop() {
+        List<Call> calls = new ArrayList<>();
+        plugAll(calls);
+        calls.add(new Call("activate"));
+        calls.add(new Call("create", 1, 1, 1));
+        for (int i = 0; i < 101; i++) {
+            calls.add(new Call("write", 0, 0, i));
+        }
+        return calls;
+    }
+
+    /** A disk that comes back without the present copy shows by its next slot how many it was given. */
+    private static List<Call> eachDiskLeftBehind() {
+        List<Call> calls = new ArrayList<>();
+        plugAll(calls);
+        calls.add(new Call("activate"));
+        for (int d = 0; d < 5; d++) {
+            calls.add(new Call("pull", d));
+            calls.add(new Call("create", 1, 1, 1));
+            calls.add(new Call("cancel"));
+            calls.add(new Call("plug", d));
+            calls.add(new Call("reduce", 0, 1));
+            calls.add(new Call("reduce", 1, 1));
+            for (int k = 0; k < 3; k++) {
+                calls.add(new Call("slot", d, k));
+            }
+        }
+        return calls;
+    }
+
+    private static List<Call> anyCalls(long seed) {
+        AnyCalls any = new AnyCalls(seed);
+        List<Call> calls = new ArrayList<>();
+        for (int i = 0; i < 400; i++) {
+            String name = any.name();
+            calls.add(new Call(name, any.arguments(name)));
+        }
+        return calls;
+    }
+}
