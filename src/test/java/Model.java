@@ -159,7 +159,8 @@ final class Model {
     }
 
     private int create(int width, int chunk, int height) {
-        if (width < 1 || width > 4 || chunk != 1 && chunk != 2 && chunk != 4 || height < 1 || (long) width * height > 12) {
+        boolean fits = height >= 1 && (long) width * height <= 12;
+        if (width < 1 || width > 4 || chunk != 1 && chunk != 2 && chunk != 4 || !fits) {
             return -1;
         }
         if (few()) {

@@ -57,7 +57,8 @@ public final class NewObjectTest {
                 "slot 0 2 -> 0; slot 1 2 -> 0; slot 2 2 -> 0");
         s.run("each slot 0 holds the same copy", 3, 4, "crash -> true; activate -> 1; sequence -> 1; slot 0 1 -> 0");
         s.run("whose map has no volumes", 3, 4,
-                "rows 0 -> BAD; rows 1 -> BAD; rows 2 -> BAD; rows 3 -> BAD; where 0 0 -> BAD; read 0 0 -> BAD; create 1 1 1 -> 0");
+                "rows 0 -> BAD; rows 1 -> BAD; rows 2 -> BAD; rows 3 -> BAD; where 0 0 -> BAD; read 0 0 -> BAD",
+                "create 1 1 1 -> 0");
         s.run("nor a move", 3, 4, "moving -> IDLE; step -> IDLE; cancel -> IDLE");
         s.run("the group is UP with this copy as the present one", 3, 4, "activate -> UP; sequence -> 1");
         s.run("nothing is armed at first", 2, 2,

@@ -27,14 +27,21 @@ final class Probe {
         all.add(afterANewStart());
         all.add(untilAStop());
         all.add(eachDiskLeftBehind());
+        all.add(everyCell());
         for (int seed = 0; seed < 8; seed++) {
             all.add(anyCalls(seed));
         }
         return all;
     }
 
+    /** The slots first: they are asked for by calls that are never refused here. */
     private static List<Call> wholeState() {
         List<Call> calls = new ArrayList<>();
+        for (int d = 0; d < 5; d++) {
+            for (int k = 0; k < 3; k++) {
+                calls.add(new Call("slot", d, k));
+            }
+        }
         calls.add(new Call("sequence"));
         calls.add(new Call("moving"));
         for (int v = 0; v < 4; v++) {
@@ -42,17 +49,20 @@ final class Probe {
             for (int e = 0; e < 12; e++) {
                 calls.add(new Call("where", v, e));
             }
+        }
+        for (int d = 0; d < 5; d++) {
+            calls.add(new Call("free", d));
+        }
+        readAll(calls);
+        return calls;
+    }
+
+    private static void readAll(List<Call> calls) {
+        for (int v = 0; v < 4; v++) {
             for (int b = 0; b < 48; b++) {
                 calls.add(new Call("read", v, b));
             }
         }
-        for (int d = 0; d < 5; d++) {
-            calls.add(new Call("free", d));
-            for (int k = 0; k < 3; k++) {
-                calls.add(new Call("slot", d, k));
-            }
-        }
-        return calls;
     }
 
     private static void plugAll(List<Call> calls) {
@@ -82,22 +92,44 @@ final class Probe {
         return calls;
     }
 
-    /** A disk that comes back without the present copy shows by its next slot how many it was given. */
+    /**
+     * A disk that comes back without the present copy shows by its next slot how many it was given. Of the
+     * calls while it is away one at least commits, be the volumes all there or the disks full.
+     */
     private static List<Call> eachDiskLeftBehind() {
         List<Call> calls = new ArrayList<>();
+        calls.add(new Call("crash"));
         plugAll(calls);
         calls.add(new Call("activate"));
+        calls.add(new Call("cancel"));
         for (int d = 0; d < 5; d++) {
             calls.add(new Call("pull", d));
             calls.add(new Call("create", 1, 1, 1));
-            calls.add(new Call("cancel"));
-            calls.add(new Call("plug", d));
+            calls.add(new Call("reduce", 3, 1));
             calls.add(new Call("reduce", 0, 1));
-            calls.add(new Call("reduce", 1, 1));
+            calls.add(new Call("plug", d));
+            calls.add(new Call("create", 1, 1, 1));
             for (int k = 0; k < 3; k++) {
                 calls.add(new Call("slot", d, k));
             }
         }
+        return calls;
+    }
+
+    /** The volumes take whatever is free, a move's target too, and tell what is in it. */
+    private static List<Call> everyCell() {
+        List<Call> calls = new ArrayList<>();
+        calls.add(new Call("crash"));
+        plugAll(calls);
+        calls.add(new Call("activate"));
+        calls.add(new Call("cancel"));
+        for (int v = 0; v < 4; v++) {
+            calls.add(new Call("create", 1, 4, 1));
+        }
+        for (int i = 0; i < 44; i++) {
+            calls.add(new Call("extend", i % 4, 1));
+        }
+        readAll(calls);
         return calls;
     }
 

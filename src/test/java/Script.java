@@ -37,19 +37,27 @@ final class Script {
     }
 
     /**
-     * Each of the refused calls alone, after the run before it: it is answered as said, and changes nothing,
-     * for an object on which it was not tried answers all that follows in the same way.
+     * Each of the refused calls alone, after the run before it: it is answered as said, and changes nothing, for
+     * an object on which it was not tried answers all that follows in the same way. So, too, with a stop armed,
+     * and with a torn copy at the beginning, by which disk 0's next slot is not the one behind its present copy.
      */
     void refuses(String title, int disks, int extents, String before, String... refused) {
+        String torn = "arm 0 -> true; create 1 1 1 -> STOPPED; activate -> 1; ";
         for (String line : refused) {
             for (String call : line.split(";")) {
-                for (List<Probe.Call> probe : Probe.ALL) {
-                    ExtentGroup tried = run(title, disks, extents, before, call);
-                    ExtentGroup untried = run(title, disks, extents, before);
-                    boolean same = Probe.answers(tried, probe).equals(Probe.answers(untried, probe));
-                    due(title + ": changes nothing: " + call.trim(), same ? 1 : 0, 1);
-                }
+                changesNothing(title, disks, extents, before, call);
+                changesNothing(title, disks, extents, before + "; arm 6 -> true", call);
+                changesNothing(title, disks, extents, torn + before, call);
             }
+        }
+    }
+
+    private void changesNothing(String title, int disks, int extents, String before, String call) {
+        for (List<Probe.Call> probe : Probe.ALL) {
+            ExtentGroup tried = run(title, disks, extents, before, call);
+            ExtentGroup untried = run(title, disks, extents, before);
+            boolean same = Probe.answers(tried, probe).equals(Probe.answers(untried, probe));
+            due(title + ": changes nothing: " + call.trim(), same ? 1 : 0, 1);
         }
     }
 
