@@ -24,6 +24,11 @@ final class Probe {
     private static List<List<Call>> all() {
         List<List<Call>> all = new ArrayList<>();
         all.add(WHOLE_STATE);
+        all.add(aCommit());
+        List<Call> withAllDisks = new ArrayList<>();
+        plugAll(withAllDisks);
+        withAllDisks.addAll(aCommit());
+        all.add(withAllDisks);
         all.add(afterANewStart());
         all.add(untilAStop());
         all.add(eachDiskLeftBehind());
@@ -63,6 +68,17 @@ final class Probe {
                 calls.add(new Call("read", v, b));
             }
         }
+    }
+
+    /** The slots that are written tell which copy is the present one. */
+    private static List<Call> aCommit() {
+        List<Call> calls = new ArrayList<>();
+        calls.add(new Call("create", 1, 1, 1));
+        for (int k = 0; k < 3; k++) {
+            calls.add(new Call("slot", 0, k));
+            calls.add(new Call("slot", 1, k));
+        }
+        return calls;
     }
 
     private static void plugAll(List<Call> calls) {
