@@ -43,14 +43,15 @@ public final class ExtentGroup {
     public ExtentGroup(int disks, int extents) {
         int diskCount = Math.min(Math.max(disks, 2), 5);
         extentCount = Math.min(Math.max(extents, 2), 10);
-        lastStamp = 1;
-        present = new Copy(1, lastStamp, new Layout(new Volume[VOLUMES], null));
+        Copy first = new Copy(1, 1, new Layout(new Volume[VOLUMES], null));
         this.disks = new Disk[diskCount];
         for (int d = 0; d < diskCount; d++) {
-            this.disks[d] = new Disk(extentCount, present);
+            this.disks[d] = new Disk(extentCount, first);
         }
         taken = new int[diskCount];
+        present = first;
         copied = 0;
+        lastStamp = first.stamp;
         up = true;
         actsBeforeStop = NOT_ARMED;
     }
@@ -393,7 +394,7 @@ public final class ExtentGroup {
         boolean whole = mayAct();
         disk.copies[k] = whole ? copy : null;
         disk.isTorn[k] = !whole;
-        disk.copyActs++;
+        disk.nextSlot = (disk.nextSlot + 1) % SLOTS;
         return whole;
     }
 
@@ -444,7 +445,7 @@ public final class ExtentGroup {
                 disk.copies[k] = null;
             }
         }
-        return disk.slotWith(chosen) != NONE || putCopy(disk, disk.nextSlot(), chosen);
+        return disk.slotWith(chosen) != NONE || putCopy(disk, disk.nextSlot, chosen);
     }
 
     private void markTaken() {
@@ -533,7 +534,8 @@ public final class ExtentGroup {
         /** What the slots hold: null when the slot is empty or torn. */
         final Copy[] copies;
         final boolean[] isTorn;
-        int copyActs;
+        /** The number of acts that wrote copies to this disk, mod 3: so it is a slot after any number of them. */
+        int nextSlot;
         boolean isPresent;
 
         Disk(int extents, Copy first) {
@@ -541,7 +543,7 @@ public final class ExtentGroup {
             copies = new Copy[SLOTS];
             isTorn = new boolean[SLOTS];
             copies[0] = first;
-            copyActs = 1;
+            nextSlot = 1;
             isPresent = true;
         }
 
@@ -554,13 +556,9 @@ public final class ExtentGroup {
             return NONE;
         }
 
-        int nextSlot() {
-            return copyActs % SLOTS;
-        }
-
         int slotBehind(Copy copy) {
             int k = slotWith(copy);
-            return k == NONE ? nextSlot() : (k + 1) % SLOTS;
+            return k == NONE ? nextSlot : (k + 1) % SLOTS;
         }
     }
 

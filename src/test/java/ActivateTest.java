@@ -51,6 +51,10 @@ public final class ActivateTest {
         s.run("an older copy in any of its slots", 3, 6,
                 "create 1 1 1 -> 0; pull 2 -> true; extend 0 1 -> 2; extend 0 1 -> 3; crash -> true; plug 2 -> true",
                 "pull 0 -> true; activate -> 2");
+        s.run("a torn slot holds none, not even the copy that was in it before", 3, 6,
+                "pull 2 -> true; create 1 1 1 -> 0; extend 0 1 -> 2; arm 0 -> true; extend 0 1 -> STOPPED",
+                "slot 0 0 -> TORN; slot 2 0 -> 1; pull 1 -> true; plug 2 -> true; activate -> FEW; plug 1 -> true",
+                "activate -> 3");
         s.run("copies are the same when number and stamp are: two of a number are not", 5, 6,
                 "create 1 1 1 -> 0; arm 1 -> true; extend 0 1 -> STOPPED; pull 0 -> true; activate -> 2",
                 "extend 0 3 -> 4; crash -> true; plug 0 -> true; pull 3 -> true; pull 4 -> true; slot 0 2 -> 3",
@@ -97,6 +101,9 @@ public final class ActivateTest {
         s.run("the next slot, whatever lesser copies the disk has", 3, 6, ONE_GREATER,
                 "pull 0 -> true; activate -> 2; extend 0 1 -> 2; extend 0 1 -> 3; extend 0 1 -> 4; crash -> true",
                 "plug 0 -> true; slot 0 2 -> 3; activate -> 5; slot 0 0 -> 5; slot 0 1 -> 2; slot 0 2 -> 3");
+        s.run("to the next slot, not to the one behind the copy that was present before the stop", 3, 6,
+                "create 1 1 1 -> 0; arm 2 -> true; extend 0 1 -> STOPPED; slot 2 2 -> TORN; activate -> 3",
+                "slot 2 0 -> 3; slot 2 1 -> 2; slot 2 2 -> TORN");
         s.run("not to a disk that is away", 3, 6,
                 "pull 2 -> true; create 1 1 1 -> 0; crash -> true; activate -> 2; slot 2 1 -> 0");
         s.run("a written copy is the same copy: it counts for a quorum", 3, 6,
@@ -177,6 +184,10 @@ public final class ActivateTest {
                 "create 1 1 1 -> 0; pull 3 -> true; pull 4 -> true; extend 0 1 -> 2; crash -> true; plug 3 -> true",
                 "plug 4 -> true; arm 1 -> true; activate -> STOPPED; slot 3 2 -> 3; slot 4 2 -> TORN; slot 0 2 -> 3",
                 "arm 1 -> true; activate -> 3; slot 4 0 -> 3; write 0 0 1 -> STOPPED");
+        s.run("a disk is written before slots of the one behind it are made empty", 3, 6,
+                "pull 0 -> true; create 1 1 1 -> 0; arm 1 -> true; extend 0 1 -> STOPPED; slot 1 2 -> 3",
+                "plug 0 -> true; arm 1 -> true; activate -> STOPPED; slot 0 1 -> 2; slot 1 2 -> 3; arm 1 -> true",
+                "activate -> 2; slot 1 2 -> 0; write 0 0 1 -> STOPPED");
         s.run("what was done before stays, and is not done again", 3, 6, TWO_GREATER,
                 "arm 1 -> true; activate -> STOPPED; arm 1 -> true; activate -> 2; slot 1 2 -> 0",
                 "write 0 0 1 -> MISSING; extend 0 1 -> STOPPED; slot 1 2 -> TORN; slot 2 2 -> 0");

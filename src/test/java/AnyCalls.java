@@ -9,10 +9,13 @@ final class AnyCalls {
 
     private final Random random;
     private final boolean calm;
+    /** Narrow runs keep to few volumes, extents and blocks, so that writes often meet the move. */
+    private final boolean narrow;
 
     AnyCalls(long seed) {
         random = new Random(seed);
         calm = random.nextInt(3) != 0;
+        narrow = random.nextInt(3) == 0;
     }
 
     /** Also beyond what the document takes as it is. */
@@ -36,18 +39,26 @@ final class AnyCalls {
             case "create": return new int[] {odd(1, 4), odd(1, 4), odd(1, 3)};
             case "extend":
             case "reduce": return new int[] {odd(0, 3), odd(1, 2)};
-            case "move": return new int[] {odd(0, 3), odd(0, 5), odd(0, 4)};
-            case "read": return new int[] {odd(0, 3), odd(0, 20)};
-            case "write": return new int[] {odd(0, 3), odd(0, 20), odd(0, 1000)};
+            case "move": return new int[] {odd(0, mostVolume()), odd(0, narrow ? 1 : 5), odd(0, 4)};
+            case "read": return new int[] {odd(0, mostVolume()), odd(0, mostBlock())};
+            case "write": return new int[] {odd(0, mostVolume()), odd(0, mostBlock()), odd(0, 1000)};
             case "where": return new int[] {odd(0, 3), odd(0, 11)};
             case "rows": return new int[] {odd(0, 3)};
             case "pull":
             case "plug":
             case "free": return new int[] {odd(0, 4)};
-            case "arm": return new int[] {odd(0, 9)};
+            case "arm": return new int[] {odd(0, narrow ? 3 : 9)};
             case "slot": return new int[] {odd(0, 4), odd(0, 2)};
             default: return new int[0];
         }
+    }
+
+    private int mostVolume() {
+        return narrow ? 0 : 3;
+    }
+
+    private int mostBlock() {
+        return narrow ? 5 : 20;
     }
 
     private int odd(int least, int most) {

@@ -75,6 +75,10 @@ public final class CommitTest {
         s.run("acts that write cells not included", 3, 6,
                 "create 1 1 1 -> 0; write 0 0 1 -> 1; write 0 1 1 -> 1; pull 0 -> true; create 1 1 1 -> 1",
                 "plug 0 -> true; create 1 1 1 -> 2; slot 0 2 -> 4; slot 0 0 -> 1");
+        s.run("the number of acts, wherever on the disk they wrote", 3, 6,
+                "create 1 1 1 -> 0; arm 0 -> true; extend 0 1 -> STOPPED; activate -> 2; extend 0 1 -> 2",
+                "slot 0 2 -> 3; pull 0 -> true; extend 0 1 -> 3; plug 0 -> true; extend 0 1 -> 4; slot 0 0 -> 1",
+                "slot 0 1 -> 5; slot 0 2 -> 3");
         s.run("acts on other disks not included", 3, 6,
                 "pull 0 -> true; create 1 1 1 -> 0; extend 0 1 -> 2; extend 0 1 -> 3; extend 0 1 -> 4",
                 "plug 0 -> true; extend 0 1 -> 5; slot 0 0 -> 1; slot 0 1 -> 6; slot 0 2 -> 0");

@@ -46,6 +46,8 @@ public final class StepTest {
                 "step -> 4; moving -> IDLE; step -> IDLE; sequence -> 4; extend 0 1 -> 2");
         s.run("the source is free then", 3, 3, ALL_COPIED,
                 "free 0 -> 2; free 1 -> 2; step -> 4; free 0 -> 3; free 1 -> 2");
+        s.run("the source's cells keep their numbers", 2, 2, ALL_COPIED,
+                "step -> 4; create 1 4 1 -> 1; where 1 0 -> 0; read 1 0 -> 7");
     }
 
     private static void refused(Script s) {
@@ -78,7 +80,7 @@ public final class StepTest {
                 "step -> 3");
         s.run("STOPPED at the commit", 3, 3, BEGUN,
                 "arm 5 -> true; step -> 3; step -> 2; step -> 1; step -> 0; step -> STOPPED; slot 0 0 -> 4",
-                "slot 1 0 -> TORN; slot 2 0 -> 1; activate -> 3; moving -> 0; where 0 0 -> 0");
+                "slot 1 0 -> TORN; slot 2 0 -> 1; activate -> 3; moving -> 0; where 0 0 -> 0; read 0 0 -> 7");
         s.run("STOPPED at the commit, but a quorum has it", 3, 3, BEGUN,
                 "arm 6 -> true; step -> 3; step -> 2; step -> 1; step -> 0; step -> STOPPED; activate -> 4",
                 "moving -> IDLE; where 0 0 -> 16; read 0 0 -> 7");

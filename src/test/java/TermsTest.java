@@ -24,6 +24,7 @@ public final class TermsTest {
         moves(s);
         room(s);
         lastCall(s);
+        neverThrows();
         s.end();
     }
 
@@ -208,5 +209,17 @@ public final class TermsTest {
             s.due("reduce, call " + (2 * i + 3), group.reduce(0, 2), 1);
         }
         s.due("the 512th call", group.sequence(), 512);
+    }
+
+    // What later calls answer is free, but none may throw: an exception here ends the test with exit code 1.
+    private static void neverThrows() {
+        for (int seed = 0; seed < 20; seed++) {
+            AnyCalls any = new AnyCalls(seed);
+            ExtentGroup group = new ExtentGroup(any.disks(), any.extents());
+            for (int i = 0; i < 10_000; i++) {
+                String name = any.name();
+                Script.call(group, name, any.arguments(name));
+            }
+        }
     }
 }
